@@ -30,6 +30,7 @@ public final class LitWindows {
     private static final int TEXT = 200;
     // Each item has a word and its end at least.
     private static final int ITEMS = TEXT / 2;
+    private static final int MOST_NUMBERS = 3;
     private static final int BLANK = 32;
     private static final int ITEM_WALL = 0, ITEM_TENANT = 1, ITEM_HAS = 2, ITEM_LETTER = 3, ITEM_LIT = 4, ITEM_SLACK = 5;
     private static final int ITEM_WORDS = 6;
@@ -880,7 +881,7 @@ public final class LitWindows {
         int items = 0;
         private final int[] bytes = new int[TEXT];
         private final int[] words = new int[ITEMS];
-        private final int[][] numbers = new int[ITEMS][3];
+        private final int[] numbers = new int[ITEMS * MOST_NUMBERS];
         private int place = 0;
         private int token = TOKEN_END;
         private int tokenAt = 0;
@@ -922,7 +923,7 @@ public final class LitWindows {
             for (int i = 0; i < numbersOf(item); i++) {
                 takeToken();
                 if (token != TOKEN_NUMBER) return false;
-                numbers[items][i] = tokenValue;
+                numbers[items * MOST_NUMBERS + i] = tokenValue;
             }
             takeToken();
             return token == TOKEN_STOP;
@@ -1003,24 +1004,27 @@ public final class LitWindows {
         // The number of the first item that is refused, or NONE.
         int tellTo(Wall to) {
             for (int i = 0; i < items; i++) {
-                int answer = tellItem(to, words[i], numbers[i]);
+                int answer = tellItem(to, words[i], i * MOST_NUMBERS);
                 if (answer == BAD || answer == NO || answer == FULL) return i;
             }
             return NONE;
         }
 
-        private static int tellItem(Wall to, int item, int[] told) {
+        private int tellItem(Wall to, int item, int at) {
+            int first = numbers[at];
+            int second = numbers[at + 1];
+            int third = numbers[at + 2];
             switch (item) {
-                case ITEM_WALL: return to.setSize(told[0], told[1]);
-                case ITEM_TENANT: return to.addTenant(told[0], told[1], told[2]);
-                case ITEM_LETTER: return to.addLetter(told[0]);
-                case ITEM_SLACK: return to.setSlack(told[0]);
+                case ITEM_WALL: return to.setSize(first, second);
+                case ITEM_TENANT: return to.addTenant(first, second, third);
+                case ITEM_LETTER: return to.addLetter(first);
+                case ITEM_SLACK: return to.setSlack(first);
                 default:
             }
             // A column past the wall's would be a window of the next row by its number alone.
-            if (!to.isWindowAt(told[1], told[2])) return BAD;
-            int window = ROW * told[2] + told[1];
-            return item == ITEM_HAS ? to.setOwner(window, told[0]) : to.setLit(told[0], window, true);
+            if (!to.isWindowAt(second, third)) return BAD;
+            int window = ROW * third + second;
+            return item == ITEM_HAS ? to.setOwner(window, first) : to.setLit(first, window, true);
         }
     }
 }

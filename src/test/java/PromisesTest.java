@@ -308,12 +308,12 @@ public final class PromisesTest {
             "wall 3 4 5;", "wallx 3 4;", "walls", "Wall 3 4;", "wall 3 4;\n", "slack 00001;", "slack 12345", "slack 0001;slack",
             "slack slack 1;", "slack1slack1;", "slack 1.", "1", "slack 1;7", "letter -1;", "wall 3 4;hass 0 0 0;", "wall 3\t4;",
             "wall 30000 4;", "wall 2 2;wall", "slack 1; lit 0 0;", "slack1;letter99999999999999999999;", "slack1; {", "slack1; `",
-            "slack :;", "slack /;"};
+            "slack :;", "slack /;", "aall 3 4;", "zlack 1;", "tenanu 0 0 0;"};
         int[] places = {0, 2, 4, 5, 0, 6, 8, 10, 9, 6,
             9, 0, 0, 0, 9, 6, 6, 16,
             6, 6, 7, 0, 8, 7, 9, 6,
             5, 13, 16, 13, 8, 8,
-            6, 6};
+            6, 6, 0, 0, 0};
         for (int i = 0; i < texts.length; i++) {
             due(12, "read() of '" + texts[i] + "'", plan(x, texts[i]), -10 - places[i]);
         }
@@ -476,6 +476,10 @@ public final class PromisesTest {
         x.slack(0);
         due(16, "least(1, 0): a KIND who refuses never does", x.least(1, 0), 1);
         due(16, "box(1, 0, 0, 0): not where one refuses", x.box(1, 0, 0, 0), 1);
+        for (int i = 2; i < 6; i++) x.letter(i);
+        due(16, "least(666, 0), six letters", x.least(666, 0), 5);
+        due(16, "least(667, 0)", x.least(667, 0), BAD);
+        due(16, "least(66, 0)", x.least(66, 0), 3);
         LitWindows narrow = owned(10, 4);
         narrow.letter(0);
         due(16, "least(11, 0), 10 wide", narrow.least(11, 0), 0);
@@ -841,6 +845,39 @@ public final class PromisesTest {
         x.clear();
         x.from(1);
         due(26, "digest() from image 1", x.digest(), kept);
+        keptInFull();
+    }
+
+    private static void keptInFull() {
+        LitWindows x = new LitWindows();
+        LitWindows same = new LitWindows();
+        furnish(x);
+        furnish(same);
+        x.image(1);
+        x.wall(6, 4);
+        x.letter(99);
+        x.letter(98);
+        for (int t = 0; t < 6; t++) x.tenant(1, 2, 3);
+        own(x, 3, 0, 5, 4);
+        for (int r = 0; r < 6; r++) x.reading(1, 1, 1);
+        x.from(1);
+        due(27, "digest() from image 1", x.digest(), same.digest());
+        due(27, "bought(3, 0, 0)", x.bought(3, 0, 0), same.bought(3, 0, 0));
+        due(27, "dead(0)", x.dead(0), same.dead(0));
+    }
+
+    private static void furnish(LitWindows x) {
+        x.wall(10, 5);
+        for (int t = 0; t < 6; t++) {
+            x.tenant(5 - t, t + 3, 9 * t + 1);
+            own(x, t, t, t + 4, 5);
+        }
+        for (int l = 0; l < 6; l++) x.letter(7 << l);
+        x.refuses(4, 1);
+        x.slack(3);
+        x.lit(2, 14, true);
+        x.lit(0, 57, true);
+        for (int r = 0; r < 6; r++) x.reading(r, r, r % 2 == 0 ? r : NONE);
     }
 
     private static void statuses() {
