@@ -58,8 +58,8 @@ public final class LitWindows {
     private int wereNo = 0;
     private int wereFull = 0;
 
+    // A Wall begins as the document asks of a new object: the widest, the highest, nobody there.
     public LitWindows() {
-        wall.beAnew(MOST_WIDE, MOST_HIGH);
     }
 
     // ---- a wall
