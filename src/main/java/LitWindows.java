@@ -178,15 +178,16 @@ public final class LitWindows {
         if (n < 1 || n > 2 || !isHour(hour)) return counted(BAD);
         int rows = 0;
         for (int number = 1; number <= GREATEST_WORD / 10; number++) {
-            if (asked.spell(number, wall.letters) && asked.length == n && isSaidBySome(hour)) rows++;
+            if (!asked.spell(number, wall.letters) || asked.length != n) continue;
+            if (wall.canBeSaid(asked, hour, wall.changeable(hour, asked.bits, ALL_TENANTS))) rows++;
         }
         return rows;
     }
 
     public int bars(int word, int hour) {
         if (!isAsked(word, hour)) return counted(BAD);
-        if (isSaidBySome(hour)) return NONE;
         long may = wall.changeable(hour, asked.bits, ALL_TENANTS);
+        if (wall.canBeSaid(asked, hour, may)) return NONE;
         int barred = 0;
         for (int y = 0; y <= wall.high - BOX_HIGH; y++) {
             if (wall.firstColumn(asked.letters[0], y, 0, hour, may) == NONE) barred |= 1 << y;
@@ -288,10 +289,6 @@ public final class LitWindows {
 
     private boolean isAsked(int number, int hour) {
         return isHour(hour) && asked.spell(number, wall.letters);
-    }
-
-    private boolean isSaidBySome(int hour) {
-        return wall.canBeSaid(asked, hour, wall.changeable(hour, asked.bits, ALL_TENANTS));
     }
 
     private static boolean isHour(int hour) {
