@@ -302,8 +302,6 @@ public final class PromisesTest {
     }
 
     private static void faults() {
-        LitWindows x = owned(4, 4);
-        long before = x.digest() * 31;
         String[] texts = {";", "  ;", "wall", "wall ", "wal", "wall 3", "wall 3 4", "wall 3 4  ", "wall 3 4;;", "wall 3;",
             "wall 3 4 5;", "wallx 3 4;", "walls", "Wall 3 4;", "wall 3 4;\n", "slack 00001;", "slack 12345", "slack 0001;slack",
             "slack slack 1;", "slack1slack1;", "slack 1.", "1", "slack 1;7", "letter -1;", "wall 3 4;hass 0 0 0;", "wall 3\t4;",
@@ -314,32 +312,26 @@ public final class PromisesTest {
             6, 6, 7, 0, 8, 7, 9, 6,
             5, 13, 16, 13, 8, 8,
             6, 6, 0, 0, 0};
-        for (int i = 0; i < texts.length; i++) {
-            due(12, "read() of '" + texts[i] + "'", plan(x, texts[i]), -10 - places[i]);
-        }
+        for (int i = 0; i < texts.length; i++) faultAt(texts[i], places[i]);
         for (int sign : new int[] {0, 31, 33, 127, 128, 255}) {
-            x.clear();
+            LitWindows x = new LitWindows();
             x.type(sign, 1);
             due(12, "read() of the byte " + sign, x.read(), -10);
         }
-        x.clear();
-        type(x, " ".repeat(196) + "slac");
-        due(12, "read() of a word that is cut off at the end", x.read(), -206);
-        x.clear();
-        type(x, " ".repeat(195) + "slack");
-        due(12, "read() of a text that ends too early", x.read(), -210);
+        faultAt(" ".repeat(196) + "slac", 196);
+        faultAt(" ".repeat(195) + "slack", 200);
+    }
+
+    private static void faultAt(String text, int place) {
+        LitWindows x = owned(4, 4);
+        long before = x.digest();
+        due(12, "read() of '" + text + "'", plan(x, text), -10 - place);
         due(12, "a fault is no refusal", x.status(0) + x.status(1) + x.status(2), 0);
-        due(12, "nothing changes", x.count(0) * 1000 + x.count(2), 4001);
         x.clear();
-        due(12, "digest() of the wall", x.digest() * 31, before);
+        due(12, "digest(): nothing changes by '" + text + "'", x.digest(), before);
     }
 
     private static void refusedItems() {
-        LitWindows x = owned(4, 4);
-        x.reading(0, 0, NONE);
-        x.letter(77);
-        x.reading(0, 0, NONE);
-        long before = x.digest();
         String[] texts = {"wall 2 4;", "wall 3 6;", "tenant 6 0 0;", "tenant 0 10 0;", "tenant 0 0 100;", "has 0 0 0;",
             "slack 4;", "letter 4096;", "slack 1;letter 3;letter 3;", "tenant 0 0 0;wall 5 4;has 0 0 0;",
             "wall 5 4;tenant 0 0 0;has 0 5 0;", "wall 5 4;tenant 0 0 0;has 0 0 4;", "lit 4 0 0;", "lit 0 12 0;", "lit 0 0 5;",
@@ -347,13 +339,19 @@ public final class PromisesTest {
             "letter 0;letter 1;letter 2;letter 3;letter 4;letter 5;letter 6;",
             "tenant0 0 0;tenant0 0 0;tenant0 0 0;tenant0 0 0;tenant0 0 0;tenant0 0 0;slack 1;tenant0 0 0;"};
         int[] items = {0, 0, 0, 0, 0, 0, 0, 0, 2, 2, 2, 2, 0, 0, 0, 2, 1, 1, 6, 7};
-        for (int i = 0; i < texts.length; i++) {
-            due(12, "read() of '" + texts[i] + "'", plan(x, texts[i]), -1000 - items[i]);
-        }
+        for (int i = 0; i < texts.length; i++) refusedAt(texts[i], items[i]);
+        due(12, "a fault goes ahead of an item refused", plan(new LitWindows(), "slack 9;slack 9"), -25);
+    }
+
+    private static void refusedAt(String text, int item) {
+        LitWindows x = owned(4, 4);
+        x.letter(77);
+        x.reading(0, 0, NONE);
+        long before = x.digest();
+        due(12, "read() of '" + text + "'", plan(x, text), -1000 - item);
+        due(12, "items are no refusals", x.status(0) + x.status(1) + x.status(2), 0);
         x.clear();
-        due(12, "nothing changes", x.digest(), before);
-        due(12, "items are no refusals", x.status(0) + x.status(1) + x.status(2), 1);
-        due(12, "a fault goes ahead of an item refused", plan(x, "slack 9;slack 9"), -25);
+        due(12, "digest(): nothing changes by '" + text + "'", x.digest(), before);
     }
 
     private static void readShapes() {

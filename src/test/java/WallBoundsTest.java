@@ -40,6 +40,7 @@ public final class WallBoundsTest {
         imagesStay();
         digestOfNothing();
         digestOfAll();
+        digestOfSome();
         System.out.println(wrong == 0 ? "the wall keeps its bounds" : wrong + " answers are not as due");
         if (wrong != 0) System.exit(1);
     }
@@ -552,5 +553,24 @@ public final class WallBoundsTest {
         h = digest(h, 4095, 2047, 1023, 511, 255, 127, 3);
         h = digest(h, 9, 0, 5, 20, 1, 4, 7, 2, 3, 18, 3, NONE, 5, 4, 1, 16, 5, 0);
         due("digest() of all", x.digest(), h);
+    }
+
+    private static void digestOfSome() {
+        for (int tenants = 0; tenants <= 2; tenants++) {
+            for (int letters = 0; letters <= 2; letters++) {
+                int readings = letters == 0 ? 0 : 3 - letters;
+                LitWindows x = wall(4, 5);
+                long h = digest(673, 4, 5, tenants, letters, readings, 0);
+                for (int t = 0; t < tenants; t++) x.tenant(3 + t, 2, 1);
+                for (int l = 0; l < letters; l++) x.letter(44 + l);
+                for (int r = 0; r < readings; r++) x.reading(13, letters - 1, NONE);
+                for (int t = 0; t < tenants; t++) h = digest(h, 3 + t, 2, 1, NONE);
+                for (int w = 0; w < 20; w++) h = digest(h, NONE, 0, 0, 0, 0);
+                for (int l = 0; l < letters; l++) h = digest(h, 44 + l);
+                h = digest(h, 0);
+                for (int r = 0; r < readings; r++) h = digest(h, 13, letters - 1, NONE);
+                due("digest() of " + tenants + " tenants, " + letters + " letters", x.digest(), h);
+            }
+        }
     }
 }

@@ -29,6 +29,7 @@ public final class WordBoundsTest {
         shapeOfLeastBits();
         shapeReadAsItsLetter();
         mostPains();
+        painsOfEachCell();
         leastTopOfLikeOnes();
         mostToTheLeftOfLikeOnes();
         onlyThePlaceAt();
@@ -388,6 +389,30 @@ public final class WordBoundsTest {
         due("least: 36 windows by night", x.least(111, 3), 756);
         x.slack(3);
         due("least: 27 windows by night", x.least(111, 3), 567);
+    }
+
+    /** One window of a box is another's: it is asked for the pains of its own cell, and of none else. */
+    private static void painsOfEachCell() {
+        for (int cell = 0; cell < 12; cell++) {
+            for (int half = 0; half < 12; half += 6) {
+                LitWindows x = owned(3, 4, PLAIN, 1);
+                x.tenant(PLAIN, 9, 1);
+                x.has(12 * (cell / 3) + cell % 3, 1);
+                for (int l = 0; l < 6; l++) x.letter(1 << half + l);
+                for (int l = 0; l < 6; l++) {
+                    boolean same = half + l == cell;
+                    due("least of cell " + (half + l) + ", " + cell + " is another's", x.least(l + 1, 0), same ? 9 : 1);
+                    due("bought of cell " + (half + l) + ", " + cell + " is another's", x.bought(l + 1, 0, 1), same ? 2 : 1);
+                }
+                x.has(12 * (cell / 3) + cell % 3, NONE);
+                for (int l = 0; l < 6; l++) {
+                    boolean same = half + l == cell;
+                    due("least of cell " + (half + l) + ", " + cell + " is nobody's", x.least(l + 1, 0), same ? NONE : 1);
+                    due("two of cell " + (half + l) + ", " + cell + " is nobody's", x.two(l + 1, 0, l + 1, 1), same ? NONE : 0);
+                    due("bars of cell " + (half + l) + ", " + cell + " is nobody's", x.bars(l + 1, 0), same ? 1 : NONE);
+                }
+            }
+        }
     }
 
     private static void leastTopOfLikeOnes() {
